@@ -1,0 +1,70 @@
+/** Counts the answers that are not as due; a test ends with end(). */
+final class Due {
+    static final int NONE = -1, UNKNOWN = -1000000001, OUTSIDE = -1000000002, NOT = -1000000003, FULL = -1000000004;
+    private static final int SHOWN = 40;
+    private int asked = 0;
+    private int wrong = 0;
+
+    void is(String call, long got, long want) {
+        asked++;
+        if (got != want) {
+            wrong++;
+            if (wrong <= SHOWN) {
+                System.out.println(call + " answered " + got + ", due is " + want);
+            }
+        }
+    }
+
+    void end() {
+        System.out.println(wrong == 0 ? asked + " answers are as due" : wrong + " of " + asked + " answers are not as due");
+        if (wrong != 0 || asked == 0) {
+            System.exit(1);
+        }
+    }
+
+    /** The answer of cord() on this text. */
+    static int tell(DayCords x, String text) {
+        for (int i = 0; i < text.length(); i++) {
+            x.feed(text.charAt(i));
+        }
+        return x.cord();
+    }
+
+    static DayCords told(String text) {
+        DayCords x = new DayCords();
+        if (tell(x, text) < 0) {
+            throw new IllegalStateException("the test's own text has a fault: " + text);
+        }
+        return x;
+    }
+
+    /** The flags on the cord from place 0 on, as figures: "20" is flag 2, then flag 0. */
+    static String row(DayCords x) {
+        StringBuilder row = new StringBuilder();
+        for (int p = 0; p <= 6 && x.at(p) != NONE; p++) {
+            row.append(x.at(p));
+        }
+        return row.toString();
+    }
+
+    void row(String call, DayCords x, String want) {
+        asked++;
+        String got = row(x);
+        if (!got.equals(want)) {
+            wrong++;
+            System.out.println(call + ": the row is " + got + ", due is " + want);
+        }
+    }
+
+    /** A cord of these flags in this order: all are taken off and sewn on again. */
+    static void hang(DayCords x, String row) {
+        for (int f = 0; f < x.told(1); f++) {
+            if (x.flag(f, 2) != NONE) {
+                x.eat(f);
+            }
+        }
+        for (int p = 0; p < row.length(); p++) {
+            x.sew(row.charAt(p) - '0', p);
+        }
+    }
+}
