@@ -969,7 +969,7 @@ public final class DayCords {
                 return 0;
             }
             for (int turns = gaps; turns <= MOST_TURNS; turns++) {
-                if (firstWithin(gaps, turns) != NONE) {
+                if (firstWithin(ranks, size, gaps, turns) != NONE) {
                     return turns;
                 }
             }
@@ -978,7 +978,7 @@ public final class DayCords {
 
         int firstTurn(Line line) {
             int turns = fewest(line);
-            return turns > 0 ? firstWithin(countGaps(), turns) : NONE;
+            return turns > 0 ? firstWithin(ranks, size, countGaps(), turns) : NONE;
         }
 
         private void takeRanks(Line line) {
@@ -1009,8 +1009,8 @@ public final class DayCords {
         }
 
         /** The least turning by which, and at most left - 1 more, no gap remains; ranks are as before then. */
-        private int firstWithin(int gaps, int left) {
-            if (left <= 0 || left > MOST_TURNS) {
+        private static int firstWithin(int[] ranks, int size, int gaps, int left) {
+            if (size >= ranks.length || left <= 0 || left > MOST_TURNS) {
                 return NONE;
             }
             for (int k = 2; k <= size; k++) {
@@ -1019,9 +1019,9 @@ public final class DayCords {
                     return k;
                 }
                 if (gapsThen < left) {
-                    turnRanks(k);
-                    int further = firstWithin(gapsThen, left - 1);
-                    turnRanks(k);
+                    turnRanks(ranks, k);
+                    int further = firstWithin(ranks, size, gapsThen, left - 1);
+                    turnRanks(ranks, k);
                     if (further != NONE) {
                         return k;
                     }
@@ -1030,7 +1030,7 @@ public final class DayCords {
             return NONE;
         }
 
-        private void turnRanks(int k) {
+        private static void turnRanks(int[] ranks, int k) {
             for (int a = 0, b = k - 1; a < b; a++, b--) {
                 int rank = ranks[a];
                 ranks[a] = ranks[b];

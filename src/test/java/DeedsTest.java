@@ -160,6 +160,12 @@ public final class DeedsTest {
         x.year(20);
         x.year(20);
         due.is("a king's, 99 at most", x.flag(0, 3), 99);
+        // all seven go at once
+        x = Due.told("y9;f2 1;f2 2;f2 3;f2 4;f2 5;f2 6;f2 7;");
+        due.is("year(19)", x.year(19), 7);
+        due.is("year(1)", x.year(1), 0);
+        due.is("undo(1)", x.undo(1), 19);
+        due.row("all seven are back", x, "0123456");
         // from 39 by 2: 41
         x = Due.told("y1;f2 2;");
         x.year(1);
@@ -234,21 +240,22 @@ public final class DeedsTest {
         for (int s = 0; s < 60; s++) {
             driftOfFew(s, 0);
             driftOfFew(s, 1);
+            driftOfFew(s, 2);
         }
     }
 
     /** No draw is made for a cut of fewer than two, or for an eaten one of none. */
     private static void driftOfFew(int s, int flags) {
-        DayCords x = Due.told(flags == 0 ? "y2;" : "y2;f0 1;");
+        DayCords x = Due.told("y2;f0 1;f0 1;".substring(0, 3 + 5 * flags));
         x.seed(s);
         seed = s;
         int lot = draw(6);
         if (lot == 0) {
             draw(10);
-        } else if (lot == 3 && flags == 1) {
-            draw(1);
+        } else if (lot == 3 && flags >= 1 || lot == 2 && flags >= 2) {
+            draw(flags);
         }
-        due.is("seed " + s + " of " + flags, x.drift(1), lot == 3 ? 0 : flags);
+        due.is("seed " + s + " of " + flags, x.drift(1), lot == 3 ? Math.max(0, flags - 1) : flags);
         due.is("seed " + s + " of " + flags + " then", x.seed(0), seed);
     }
 

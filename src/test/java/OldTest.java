@@ -76,6 +76,9 @@ public final class OldTest {
         Due.hang(x, "2");
         due.is("alike: none parts them", x.next(), Due.NONE);
         due.is("alike", x.couldBe(), 3);
+        x = Due.told("y0;f3 9;f3 9;f3 8;f3 7;");
+        Due.hang(x, "");
+        due.is("heavy 9 parts best", x.next(), 19);
         x = Due.told("y0;f5 9;f5 5;");
         Due.hang(x, "");
         due.is("heavy 5, not kind 5", x.next(), 15);

@@ -14,6 +14,7 @@ public final class TextTest {
         faultChangesNothing();
         newCordClears();
         telling();
+        whatItSays();
         due.end();
     }
 
@@ -292,6 +293,33 @@ public final class TextTest {
         due.is("told(13) by no cut", x.told(13), Due.NONE);
         due.is("told(-1)", x.told(-1), Due.OUTSIDE);
         due.is("told(20)", x.told(20), Due.OUTSIDE);
+    }
+
+    private static void whatItSays() {
+        // a lesser word that leads nowhere is not the first
+        says("y0;f0 1;f1 1;f2 1;w0;w0,1;w2;", 1, 23, 0b101);
+        // word by word the lesser, not the shorter row
+        says("y0;f0 1;f0 1;w0;w0,0;", 2, 11, 0b11);
+        says("y0;f0 1;f0 1;w0,0;w0;", 2, 1, 0b11);
+        // words of the same kinds are several words
+        says("y0;f0 1;f0 1;f0 1;f0 1;f0 1;f0 1;f0 1;w0;w0;w0;w0;w0;w0;", 279936, 1111111, 127);
+        says("y0;f3 1;f3 1;f3 1;f3 1;f3 1;f3 1;f4 1;w3;w3,4;", 1, 111112, 0b0111111);
+        says("y0;f3 1;f3 1;f3 1;f3 1;w3,3,3,3;w3,3;", 2, 1, 0b0111);
+        // the last flag alone has no word
+        says("y0;f0 1;f1 1;w0;w1,1;", 0, Due.NONE, 0b01);
+        says("y0;f0 1;", 0, Due.NONE, 0);
+        DayCords x = Due.told("y0;f5 9;f5 1;w5;");
+        x.wind(1);
+        due.is("the blue ones are out in a wind of 1", x.told(9), 3);
+        x.rain(true);
+        due.is("wet ones too", x.told(9), 3);
+    }
+
+    private static void says(String text, int readings, int first, int spelt) {
+        DayCords x = Due.told(text);
+        due.is("told(14) of " + text, x.told(14), readings);
+        due.is("told(15) of " + text, x.told(15), first);
+        due.is("told(16) of " + text, x.told(16), spelt);
     }
 
     private static void good(String text, int flags) {

@@ -148,6 +148,9 @@ public final class TriedTest {
         x = Due.told("y0;f0 1;f0 1;h0 0;");
         due.is("hooked(2): none reaches", x.hooked(2), Due.NONE);
         due.is("hooked(3): none reaches all", x.hooked(3), Due.NONE);
+        x = Due.told(SEVEN + "h6 0;h0 0;h3 2;");
+        due.is("hooked(64): the last place", x.hooked(64), 1);
+        due.is("hooked(127)", x.hooked(127), 7);
         // a greater number of fewer hooks
         x = Due.told("y0;f0 1;f0 1;h0 0;h1 0;h0 1;");
         due.is("hooked(3): one hook", x.hooked(3), 4);
@@ -178,6 +181,8 @@ public final class TriedTest {
         endsOf("y0;f0 2;f0 9;f0 1;", 994, 0);
         endsOf("y0;f0 1;f0 9;f0 2;", 994, 0);
         endsOf("y0;f0 8;f0 9;f0 3;f0 7;", 1005, 1);
+        endsOf("y0;f0 1;f0 2;f0 3;f0 4;f0 5;f0 6;f0 7;", 1004, 1);
+        endsOf("y0;f0 7;f0 6;f0 5;f0 4;f0 3;f0 2;f0 1;", 1004, 0);
         endsOf("y0;", 1000, Due.NONE);
         DayCords x = Due.told("y0;f0 3;f0 5;");
         x.rain(true);
