@@ -12,6 +12,7 @@ public final class TextTest {
         leastOfSeveral();
         emptyTexts();
         faultChangesNothing();
+        nothingIsLeftOfALongerText();
         newCordClears();
         telling();
         whatItSays();
@@ -232,6 +233,24 @@ public final class TextTest {
         due.is("fault() of the latest", x.fault(), 1);
         due.is("cord()", Due.tell(x, "y1;"), 0);
         due.is("fault() of none", x.fault(), Due.NONE);
+    }
+
+    private static void nothingIsLeftOfALongerText() {
+        DayCords x = new DayCords();
+        for (String text : new String[] {"y5", "y", "y5;f0 5", "y5;w1", "y5;w1,", "y5;w"}) {
+            due.is("a longer text", Due.tell(x, "y5;f0 5;f0 5;"), 2);
+            due.is("then '" + text + "'", Due.tell(x, text), -11);
+            due.is("fault()", x.fault(), text.length());
+            due.is("a longer text of figures", Due.tell(x, text + "5555555"), -12);
+            due.is("then '" + text + "'", Due.tell(x, text), -11);
+            due.is("fault()", x.fault(), text.length());
+        }
+        due.is("a longer text", Due.tell(x, "y5;   ;"), -11);
+        due.is("then a shorter one", Due.tell(x, "y5;"), 0);
+        // a number at the last letter that there can be
+        String full = "y5;" + " ".repeat(235) + "f3";
+        due.is("240 letters", Due.tell(x, full), -11);
+        due.is("fault()", x.fault(), 240);
     }
 
     private static void newCordClears() {
