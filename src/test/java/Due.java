@@ -4,15 +4,46 @@ final class Due {
     private static final int SHOWN = 40;
     private int asked = 0;
     private int wrong = 0;
+    private String sentence = "";
+
+    /** The document's words that the answers from here on are due by. */
+    void sentence(String words) {
+        sentence = "<" + words + "> ";
+    }
 
     void is(String call, long got, long want) {
         asked++;
         if (got != want) {
             wrong++;
             if (wrong <= SHOWN) {
-                System.out.println(call + " answered " + got + ", due is " + want);
+                System.out.println(sentence + call + " answered " + got + ", due is " + want);
             }
         }
+    }
+
+    /** On the scene (see Calls), made anew, the call answers this. */
+    void answers(String scene, String call, int want) {
+        is(scene + " | " + call, Calls.ask(Calls.scene(scene), call), want);
+    }
+
+    /** The call answers this refusal, and nothing that can be seen has changed by it. */
+    void refused(String scene, String call, int want) {
+        answers(scene, call, want);
+        unchanged(scene, call);
+    }
+
+    void unchanged(String scene, String call) {
+        alike(scene, scene + " | " + call);
+    }
+
+    /** Nothing that can be seen tells the scenes apart. */
+    void alike(String scene, String other) {
+        is(other + ", which is otherwise than " + scene + ":", Seen.of(other).equals(Seen.of(scene)) ? 1 : 0, 1);
+    }
+
+    /** The flags on the cord behind a scene, from PLACE 0 on, as figures. */
+    void row(String scene, String want) {
+        row(scene, Calls.scene(scene), want);
     }
 
     void end() {
@@ -52,7 +83,7 @@ final class Due {
         String got = row(x);
         if (!got.equals(want)) {
             wrong++;
-            System.out.println(call + ": the row is " + got + ", due is " + want);
+            System.out.println(sentence + call + ": the row is " + got + ", due is " + want);
         }
     }
 
