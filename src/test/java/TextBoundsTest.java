@@ -327,12 +327,12 @@ public final class TextBoundsTest {
 
     private static void blanks() {
         due.sentence("blanks (32) may stand anywhere but within NUMBERS");
-        String text = "y5;f1 2;w3,4;h5 6;";
+        String text = "y5;f1 2;w3,4,5,2;h5 6;";
         for (int i = 0; i <= text.length(); i++) {
             due.alike("tell " + text, "type " + text.substring(0, i) + " | feed 32 | type " + text.substring(i) + " | cord");
             due.alike("tell " + text, "type " + text.substring(0, i) + " | 9 x feed 32 | type " + text.substring(i) + " | cord");
         }
-        due.alike("tell " + text, "tell  y  5 ; f  1   2 ; w 3 , 4 ; h 5  6 ; ");
+        due.alike("tell " + text, "tell  y  5 ; f  1   2 ; w 3 , 4 , 5 , 2 ; h 5  6 ; ");
         for (int c : new int[] {0, 9, 10, 13, 31, 33, 160, 255}) {
             due.answers("type y | feed " + c + " | type 5;", "cord", -11);
             due.answers("type y | feed " + c + " | type 5; | cord", "fault", 1);
@@ -439,6 +439,10 @@ public final class TextBoundsTest {
             due.alike(again, scene + " | " + again);
             due.alike(again, scene + " | 2 x wind 9 | rain true | year 20 | keep 0 | old 0 0 true | write 0 -1 | " + again);
         }
+        due.alike(again, Scenes.SEVEN + " | turn 7 | " + again);
+        due.alike(again, Scenes.SEVEN + " | cut 3 | " + again);
+        due.alike(again, Scenes.SEVEN + " | eat 0 | eat 1 | eat 2 | " + again);
+        due.alike(again, Scenes.SEVEN + " | year 9 | eat 0 | eat 1 | eat 2 | sew 1 0 | sew 0 0 | sew 2 0 | rain true | " + again);
         due.sentence("3: THE TEXT (it is empty then");
         due.answers(Scenes.SEVEN, "told 4", 0);
         due.answers(Scenes.SEVEN, "feed 32", 1);

@@ -19,6 +19,7 @@ public final class ToldBoundsTest {
         toldSpelt();
         toldOldAndBook();
         toldUndone();
+        numbersFromNoughtOn();
         flagNumber();
         flagWhat();
         flagPlace();
@@ -243,6 +244,21 @@ public final class ToldBoundsTest {
             due.answers(Scenes.ONE + " | " + n + " x wind 4", "told 19", Math.min(n, 30));
         }
         due.answers("", "told 19", 0);
+    }
+
+    private static void numbersFromNoughtOn() {
+        due.sentence("What has a number has it from 0 on, as it comes.");
+        String scene = "tell y0;f5 1;w1;h6 1;f0 9;w2,3;h0 2;f3 4;w4;h3 3;";
+        int[][] flags = {{5, 1}, {0, 9}, {3, 4}};
+        int[] words = {1, 2, 4};
+        int[][] hooks = {{6, 1}, {0, 2}, {3, 3}};
+        for (int i = 0; i < 3; i++) {
+            for (int what = 0; what < 2; what++) {
+                due.answers(scene, "flag " + i + " " + what, flags[i][what]);
+                due.answers(scene, "hook " + i + " " + what, hooks[i][what]);
+            }
+            due.answers(scene, "word " + i + " 0", words[i]);
+        }
     }
 
     private static void flagNumber() {

@@ -6,6 +6,9 @@ public final class TriedBoundsTest {
     private static final String NONE_ON = Scenes.ONE + " | eat 0";
     private static final int[] FAR = {Integer.MIN_VALUE, -1000000001, 1000000, Integer.MAX_VALUE};
 
+    private static final String[] TRIED = {"turnings 0", "turnings 1", "loose 0", "loose 1", "felt 50 7", "farthest 50", "hooked 0", "hooked 1",
+        "hooked 127", "gap 0", "ends 0", "ends 1", "calm 60 50", "told 13", "told 14", "told 15", "told 16"};
+
     public static void main(String[] args) {
         whatBounds();
         turningsOfFew();
@@ -29,6 +32,7 @@ public final class TriedBoundsTest {
         calmOdds();
         calmIsCut();
         triedChangesNothing();
+        triedBeforeOrNot();
         due.end();
     }
 
@@ -399,11 +403,26 @@ public final class TriedBoundsTest {
 
     private static void triedChangesNothing() {
         due.sentence("TRIED from now, as nothing else is done; nothing changes by it.");
-        String[] calls = {"turnings 0", "turnings 1", "loose 0", "loose 1", "felt 50 7", "farthest 50", "hooked 0", "hooked 1", "hooked 127", "gap 0",
-            "ends 0", "ends 1", "calm 60 50"};
         for (String scene : Scenes.ALL) {
-            for (String call : calls) {
+            for (String call : TRIED) {
                 due.unchanged(scene, call);
+            }
+        }
+    }
+
+    /** One object that is asked everything behind each deed answers as new ones that are asked once. */
+    private static void triedBeforeOrNot() {
+        due.sentence("TRIED from now (whatever was tried before)");
+        String[] deeds = {"turn 7", "cut 2", "eat 3", "turn 4", "rain true", "eat 5", "cut 3", "eat 0", "sew 3 1", "eat 6", "turn 2", "eat 1", "eat 2", "eat 4",
+            "eat 3", "sew 5 0", "sew 0 1", "year 3", "tell y5;f0 1;f1 9;w1;h0 0;", "turn 2", "cord"};
+        DayCords x = Calls.scene(Scenes.SEVEN);
+        String scene = Scenes.SEVEN;
+        for (String deed : deeds) {
+            Calls.ask(x, deed);
+            scene += " | " + deed;
+            for (int i = 0; i < TRIED.length; i++) {
+                String call = TRIED[(i + deed.length()) % TRIED.length];
+                due.is(scene + " | " + call + " behind others", Calls.ask(x, call), Calls.ask(Calls.scene(scene), call));
             }
         }
     }
