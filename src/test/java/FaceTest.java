@@ -1,16 +1,17 @@
 import java.lang.management.ManagementFactory;
+import java.lang.reflect.Array;
 import java.lang.reflect.Constructor;
 import java.lang.reflect.Field;
 import java.lang.reflect.Method;
 import java.lang.reflect.Modifier;
-import java.nio.charset.StandardCharsets;
-import java.nio.file.Files;
-import java.nio.file.Path;
+import java.util.ArrayList;
+import java.util.Collections;
+import java.util.IdentityHashMap;
+import java.util.List;
 import java.util.Set;
 import java.util.TreeSet;
-import java.util.regex.Pattern;
 
-/** The public face, the rules of LANGUAGE.md that can be seen from outside, and the room that calls take. */
+/** The public face, and the room that objects and calls take. */
 public final class FaceTest {
     private static final Due due = new Due();
     private static final String METHODS = "feed(int) cord() fault() told(int) flag(int,int) at(int) hook(int,int) word(int,int) "
@@ -20,8 +21,7 @@ public final class FaceTest {
 
     public static void main(String[] args) throws Exception {
         face();
-        classesInside();
-        language();
+        roomOfAnObject();
         room();
         due.end();
     }
@@ -60,40 +60,35 @@ public final class FaceTest {
             "OUTSIDE=-1000000002", "NOT=-1000000003", "FULL=-1000000004"))));
     }
 
-    private static void classesInside() {
-        Set<String> names = new TreeSet<>();
-        for (String method : METHODS.split(" ")) {
-            names.add(method.substring(0, method.indexOf('(')));
-        }
-        Class<?>[] inside = DayCords.class.getDeclaredClasses();
-        yes("at most twelve classes", inside.length + 1 <= 12);
-        for (Class<?> c : inside) {
-            yes(c + " is static", Modifier.isStatic(c.getModifiers()));
-            yes(c + " has twenty fields at most", c.getDeclaredFields().length <= 20);
-            for (Method m : c.getDeclaredMethods()) {
-                yes(c + " has no method of a public name: " + m.getName(), !names.contains(m.getName()));
-                yes("parameters of " + m.getName(), m.getParameterCount() <= 7);
+    /** All runs live in one room, so that an object is small: thousands of them must find place there. */
+    private static void roomOfAnObject() throws Exception {
+        Set<Object> met = Collections.newSetFromMap(new IdentityHashMap<>());
+        List<Object> open = new ArrayList<>(List.of(new DayCords()));
+        int elements = 0;
+        for (int i = 0; i < open.size(); i++) {
+            Object o = open.get(i);
+            if (!met.add(o)) {
+                continue;
+            }
+            if (o.getClass().isArray()) {
+                elements += Array.getLength(o);
+                for (int k = 0; k < Array.getLength(o) && !o.getClass().getComponentType().isPrimitive(); k++) {
+                    open.add(Array.get(o, k));
+                }
+                continue;
+            }
+            for (Field f : o.getClass().getDeclaredFields()) {
+                if (!Modifier.isStatic(f.getModifiers())) {
+                    f.setAccessible(true);
+                    elements++;
+                    if (!f.getType().isPrimitive()) {
+                        open.add(f.get(o));
+                    }
+                }
             }
         }
-        int fields = 0;
-        for (Field f : DayCords.class.getDeclaredFields()) {
-            if (Modifier.isStatic(f.getModifiers())) {
-                yes(f.getName() + " is final", Modifier.isFinal(f.getModifiers()));
-            } else {
-                fields++;
-            }
-        }
-        yes("twenty fields at most", fields <= 20);
-    }
-
-    private static void language() throws Exception {
-        String source = new String(Files.readAllBytes(Path.of("src/main/java/DayCords.java")), StandardCharsets.UTF_8);
-        String code = source.replaceAll("(?s)/\\*.*?\\*/", "").replaceAll("//[^\n]*", "");
-        for (String bad : new String[] {"\\bthrows?\\b", "\\btry\\b", "\\bcatch\\b", "\\bsynchronized\\b", "\\bassert\\b", "->", "::",
-            "\\bpackage\\b", "\\bprotected\\b", "Exact\\b", "\\bvar\\b", "\\bSystem\\.(?!arraycopy)", "\\bimport (?!java\\.util\\.Arrays;)"}) {
-            yes("the source has no " + bad, !Pattern.compile(bad).matcher(code).find());
-        }
-        yes("the source is ASCII", source.chars().allMatch(c -> c < 128));
+        yes("objects and arrays of a new object: " + met.size(), met.size() <= 200);
+        yes("fields and elements of a new object: " + elements, elements <= 2000);
     }
 
     /** Rows are made in the constructor and used again: no call makes an object. */
